@@ -1,0 +1,54 @@
+/** Counts checks, prints each that fails, and ends a test's run with the exit code that is due. */
+final class Checks {
+    interface Call {
+        int answer();
+    }
+
+    private final String test;
+    private int passed;
+    private int failed;
+
+    Checks(String test) {
+        this.test = test;
+    }
+
+    void answers(String what, int due, Call call) {
+        String got;
+        try {
+            got = String.valueOf(call.answer());
+        } catch (RuntimeException e) {
+            got = nameOf(e);
+        }
+        check(what, got, String.valueOf(due));
+    }
+
+    void refuses(String what, Class<? extends RuntimeException> due, Call call) {
+        String got;
+        try {
+            got = String.valueOf(call.answer());
+        } catch (RuntimeException e) {
+            got = nameOf(e);
+        }
+        check(what, got, "throws." + due.getSimpleName());
+    }
+
+    void check(String what, String got, String due) {
+        if (got.equals(due)) {
+            passed++;
+        } else {
+            failed++;
+            System.out.println(test + ": " + what + " answered " + got + ", due is " + due);
+        }
+    }
+
+    static String nameOf(RuntimeException e) {
+        return "throws." + e.getClass().getSimpleName();
+    }
+
+    void finish() {
+        System.out.println(test + ": " + passed + " checks hold, " + failed + " do not");
+        if (failed != 0 || passed == 0) {
+            System.exit(1);
+        }
+    }
+}
