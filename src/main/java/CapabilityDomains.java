@@ -87,21 +87,21 @@ public final class CapabilityDomains {
     public int export(int d, int o, int s, int rights, int uses)
             throws IllegalArgumentException, IllegalStateException, NoSuchElementException,
                     ArithmeticException {
-        refuseNoSlot(d, s);
-        refuseNoGrant(rights, uses);
+        requireSlot(d, s);
+        requireGrant(rights, uses);
         Domain domain = livingDomain(d);
         if (!domain.hasObject(o)) {
             throw new NoSuchElementException("no such object");
         }
-        refuseOneMoreCapability();
+        requireCapabilityLeft();
         return putNew(new Capability(domain, o, null, rights, uses), domain, s);
     }
 
     public int narrow(int d, int s, int rights, int uses)
             throws IllegalArgumentException, IllegalStateException, NoSuchElementException,
                     UnsupportedOperationException, ArithmeticException {
-        refuseNoSlot(d, s);
-        refuseNoGrant(rights, uses);
+        requireSlot(d, s);
+        requireGrant(rights, uses);
         Domain domain = livingDomain(d);
         Capability parent = capabilityIn(domain, s);
         if (parent.dead) {
@@ -110,14 +110,14 @@ public final class CapabilityDomains {
         if (!parent.allows(rights)) {
             throw new UnsupportedOperationException("the parent lacks a right");
         }
-        refuseOneMoreCapability();
+        requireCapabilityLeft();
         return putNew(new Capability(parent.home, parent.target, parent, rights, uses), domain, s);
     }
 
     public int give(int d, int s, int e, int t)
             throws IllegalArgumentException, IllegalStateException, NoSuchElementException {
-        refuseNoSlot(d, s);
-        refuseNoSlot(e, t);
+        requireSlot(d, s);
+        requireSlot(e, t);
         Domain giver = livingDomain(d);
         Domain taker = livingDomain(e);
         return taker.replaceSlot(t, capabilityIn(giver, s));
@@ -126,7 +126,7 @@ public final class CapabilityDomains {
     public int revoke(int d, int s)
             throws IllegalArgumentException, IllegalStateException, NoSuchElementException,
                     UnsupportedOperationException {
-        refuseNoSlot(d, s);
+        requireSlot(d, s);
         Domain domain = livingDomain(d);
         Capability capability = capabilityIn(domain, s);
         if (capability.home != domain) {
@@ -284,19 +284,19 @@ public final class CapabilityDomains {
         return isDomain(d) && domains[d].hasObject(o) && f >= 0 && f < FIELDS;
     }
 
-    private void refuseNoSlot(int d, int s) {
+    private void requireSlot(int d, int s) {
         if (!isDomain(d) || !isSlot(s)) {
             throw new IllegalArgumentException("no such domain or slot");
         }
     }
 
-    private static void refuseNoGrant(int rights, int uses) {
+    private static void requireGrant(int rights, int uses) {
         if (rights < 0 || rights > ALL_RIGHTS || uses < WITHOUT_END) {
             throw new IllegalArgumentException("rights or uses out of range");
         }
     }
 
-    private void refuseOneMoreCapability() {
+    private void requireCapabilityLeft() {
         if (capabilitiesMade >= MOST_CAPABILITIES) {
             throw new ArithmeticException("all capabilities were made");
         }
@@ -332,7 +332,7 @@ public final class CapabilityDomains {
 
     /** Tests all that USING tests; the use itself is spent later, when the call's own tests are over. */
     private Capability usable(int d, int s, int right) {
-        refuseNoSlot(d, s);
+        requireSlot(d, s);
         Capability capability = capabilityIn(livingDomain(d), s);
         if (capability.dead || capability.isUsedUp()) {
             throw new IllegalStateException("the capability is dead or used up");
@@ -405,12 +405,6 @@ public final class CapabilityDomains {
             number = 0;
             link = NONE;
             capability = c;
-        }
-
-        void becomeCopyOf(Field other) {
-            number = other.number;
-            link = other.link;
-            capability = other.capability;
         }
     }
 
@@ -606,9 +600,12 @@ public final class CapabilityDomains {
         private void copyFields(DomainObject source, DomainObject copy) {
             for (int f = 0; f < FIELDS; f++) {
                 Field field = source.fields[f];
-                copy.fields[f].becomeCopyOf(field);
                 if (field.isLink()) {
                     copy.fields[f].becomeLink(copyNumber[field.link]);
+                } else if (field.capability != null) {
+                    copy.fields[f].becomeCapability(field.capability);
+                } else {
+                    copy.fields[f].becomeNumber(field.number);
                 }
             }
         }

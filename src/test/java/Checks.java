@@ -13,23 +13,11 @@ final class Checks {
     }
 
     void answers(String what, int due, Call call) {
-        String got;
-        try {
-            got = String.valueOf(call.answer());
-        } catch (RuntimeException e) {
-            got = nameOf(e);
-        }
-        check(what, got, String.valueOf(due));
+        check(what, told(call), String.valueOf(due));
     }
 
     void refuses(String what, Class<? extends RuntimeException> due, Call call) {
-        String got;
-        try {
-            got = String.valueOf(call.answer());
-        } catch (RuntimeException e) {
-            got = nameOf(e);
-        }
-        check(what, got, "throws." + due.getSimpleName());
+        check(what, told(call), "throws." + due.getSimpleName());
     }
 
     void check(String what, String got, String due) {
@@ -38,6 +26,14 @@ final class Checks {
         } else {
             failed++;
             System.out.println(test + ": " + what + " answered " + got + ", due is " + due);
+        }
+    }
+
+    private static String told(Call call) {
+        try {
+            return String.valueOf(call.answer());
+        } catch (RuntimeException e) {
+            return nameOf(e);
         }
     }
 

@@ -143,6 +143,7 @@ final class DomainsTest {
         x.export(2, 1, 1, 31, -1);
         x.narrow(2, 1, 1, 0);
         x.give(2, 0, 0, 0);
+        CHECKS.answers("20: all are alive", 3, () -> x.count(1));
         x.end(0);
         CHECKS.answers("20: domains made", 3, () -> x.count(0));
         CHECKS.answers("20: alive ones", 2, () -> x.count(1));

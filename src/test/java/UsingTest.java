@@ -306,6 +306,12 @@ final class UsingTest {
         CHECKS.refuses("15: not twice", STATE, () -> x.free(1, 0));
         x.export(0, 1, 0, 16, 1);
         CHECKS.answers("15: without links of others", 0, () -> x.free(0, 0));
+        for (int f = 0; f < 3; f++) {
+            x.link(1, 0, f, 1);
+        }
+        x.export(1, 1, 0, 16, 1);
+        CHECKS.answers("15: links of a lesser number", 3, () -> x.free(1, 0));
+        CHECKS.answers("15: they are ints, too", 0, () -> x.holds(1, 0, 2));
     }
 
     private static void promise15FreeEndsAllThatAimAtIt() {
