@@ -29,7 +29,8 @@ final class Checks {
         }
     }
 
-    private static String told(Call call) {
+    /** What a call did: its answer, or the exception's name behind throws. */
+    static String told(Call call) {
         try {
             return String.valueOf(call.answer());
         } catch (RuntimeException e) {
