@@ -206,7 +206,7 @@ final class CapabilitiesBoundaryTest extends Limits {
     private static void promise8ARightThatTheParentLacks() {
         for (int right = 1; right < 32; right *= 2) {
             int one = right;
-            Scene without = ONE_ENDED.then(x -> x.export(0, 0, 0, 31 - one, -1));
+            Scene without = ONE_ENDED.then(x -> x.export(0, 0, 0, 31 - one, 3));
             without.refuses("8: lacks right " + right, RIGHT, x -> x.narrow(0, 0, one, 0));
             without.refuses("8: all rights, lacks " + right, RIGHT, x -> x.narrow(0, 0, 31, 0));
             without.answers("8: all but " + right, 4, x -> x.narrow(0, 0, 31 - one, 0));

@@ -95,6 +95,9 @@ final class DomainsBoundaryTest extends Limits {
         eleven.answers("3: 11 are there", 11, x -> x.object(0));
         Scene twelve = SIX.then(x -> fill(x, 0));
         twelve.refuses("3: 12 are there", ARITHMETIC, x -> x.object(0));
+        twelve.answers("3: 12 are there in another", 1, x -> x.object(5));
+        SIX.then(x -> fill(x, 5)).refuses("3: 12 are there in the last", ARITHMETIC,
+                x -> x.object(5));
         twelve.then(x -> freeBy(x, 0, 3, 1)).answers("3: 12 were there", 3, x -> x.object(0));
         Scene byPass = eleven.then(x -> x.pass(0, 0, 0, 1));
         byPass.refuses("3: 12 are there, one of them a copy", ARITHMETIC, x -> x.object(0));

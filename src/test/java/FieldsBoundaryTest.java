@@ -127,6 +127,8 @@ final class FieldsBoundaryTest extends Limits {
                 (x, t) -> x.link(0, 0, 0, t));
         GAP.answersEach("5: link to", 0, new int[] {0, 2}, (x, t) -> x.link(0, 0, 0, t));
         FULL.refuses("5: link to another domain's", ELEMENT, x -> x.link(1, 0, 0, 11));
+        ALL_KINDS.refusesEach("5: link to none, field", ELEMENT, FIELDS,
+                (x, f) -> x.link(0, 1, f, 2));
         ALL_KINDS.answersEach("5: over field", 0, FIELDS, (x, f) -> x.link(0, 1, f, 1));
         for (int f : FIELDS) {
             ALL_KINDS.then(x -> x.link(0, 1, f, 1)).tells("5: linked over field " + f, 1,
@@ -146,11 +148,15 @@ final class FieldsBoundaryTest extends Limits {
     private static void promise6SlotOutOfRange() {
         SIX.answersEach("6: hold slot", 0, SLOTS, (x, s) -> x.hold(0, 0, 0, s));
         SIX.refusesEach("6: hold slot", INDEX, NO_SLOTS, (x, s) -> x.hold(0, 0, 0, s));
+        ALL_KINDS.refusesEach("6: hold slot 8 in field", INDEX, FIELDS,
+                (x, f) -> x.hold(0, 1, f, 8));
     }
 
     /** "then NoSuchElementException if the SLOT is empty)" */
     private static void promise6ThenEmpty() {
         SIX.refusesEach("6: empty slot", ELEMENT, new int[] {1, 6}, (x, s) -> x.hold(0, 0, 0, s));
+        ALL_KINDS.refusesEach("6: empty slot, field", ELEMENT, FIELDS,
+                (x, f) -> x.hold(0, 1, f, 1));
         SIX.then(x -> x.revoke(0, 0)).answers("6: a dead one is not empty", 0,
                 x -> x.hold(0, 0, 0, 0));
         SIX.then(x -> x.export(0, 0, 1, 0, 0)).answers("6: a used up one is not empty", 0,

@@ -26,6 +26,16 @@ abstract class Limits {
     static final int[] USES = {-1, 0, 1, MOST};
     static final int[] NO_USES = {-2, LEAST};
 
+    /** Domains 0 and 1 with so many objects each. */
+    static CapabilityDomains twoDomains(int objects) {
+        CapabilityDomains x = new CapabilityDomains();
+        for (int d = 0; d < 2; d++) {
+            x.domain();
+            addObjects(x, d, objects);
+        }
+        return x;
+    }
+
     /** All six domains, each with one object and a capability for it in the slots 0 and 7. */
     static void sixDomains(CapabilityDomains x) {
         for (int d = 0; d < 6; d++) {
@@ -36,9 +46,11 @@ abstract class Limits {
         }
     }
 
-    /** Fills a domain that has one object. */
+    /** Fills a domain that has one object; the last one's fields are 0, 6 and the slot's capability. */
     static void fill(CapabilityDomains x, int d) {
         addObjects(x, d, 11);
+        x.set(d, 11, 1, 6);
+        x.hold(d, 11, 2, 0);
     }
 
     static void addObjects(CapabilityDomains x, int d, int more) {

@@ -13,8 +13,8 @@ final class Looks {
 
     private static final Look[] ALL = {
         Looks::counts, Looks::slots, Looks::holdings, Looks::links, Looks::ints, Looks::rights,
-        Looks::ownUses, Looks::usesOfParents, Looks::heldCapabilities, Looks::revokes,
-        Looks::revokesBackward, Looks::frees, Looks::endsBackward, Looks::makings
+        Looks::ownUses, Looks::usesOfParents, Looks::heldCapabilities, Looks::passes,
+        Looks::revokes, Looks::revokesBackward, Looks::frees, Looks::endsBackward, Looks::makings
     };
 
     private final CapabilityDomains x;
@@ -129,6 +129,10 @@ final class Looks {
                 note("write by what was in " + at, () -> x.write(d, 6, 0, 0));
             }
         });
+    }
+
+    private void passes() {
+        eachSlot((d, s) -> note("pass by " + d + " " + s, () -> x.pass(d, s, 1, 0)));
     }
 
     private void revokes() {

@@ -2,10 +2,17 @@
 final class PassBoundaryTest extends Limits {
     private static final Checks CHECKS = new Checks("PassBoundaryTest");
     private static final Scene SIX = new Scene(CHECKS, Limits::sixDomains);
-    /** Domain 0 reaches object 0 of domain 1, that one's only object, by slot 1, with two uses. */
+    /**
+     * Domain 0 reaches object 0 of domain 1, that one's only object, by slot 1, with two uses, of
+     * three that the parent has. The object's fields are 4, 5 and 6.
+     */
     private static final Scene INTO_1 = SIX.then(x -> {
-        x.export(1, 0, 1, 31, 2);
+        for (int f : FIELDS) {
+            x.set(1, 0, f, 4 + f);
+        }
+        x.export(1, 0, 1, 31, 3);
         x.give(1, 1, 0, 1);
+        x.narrow(0, 1, 31, 2);
     });
 
     public static void main(String[] args) {
@@ -65,6 +72,14 @@ final class PassBoundaryTest extends Limits {
         twice.answers("once in each call", 1, x -> x.pass(0, 1, 0, 0));
         twice.then(x -> x.pass(0, 1, 0, 0)).tells("so two copies", 3, x -> x.count(5));
         twice.tells("the source is not moved", 1, x -> x.count(4));
+        Scene former = INTO_1.then(x -> {
+            addObjects(x, 0, 2);
+            x.link(0, 1, 0, 2);
+            x.pass(0, 1, 0, 1);
+            x.set(1, 2, 0, 8);
+            x.pass(0, 1, 0, 0);
+        });
+        former.answers("no copy of a call before is copied again", 8, x -> x.set(1, 2, 0, 0));
     }
 
     /** "the OBJECT o of DOMAIN d, and all OBJECTS that are reached from it by links" */
@@ -125,7 +140,7 @@ final class PassBoundaryTest extends Limits {
             x.take(1, 3, 2, 4);
             return x.write(1, 4, 0, 0);
         });
-        passed.tells("no new one is made", 8, x -> x.count(2));
+        passed.tells("no new one is made", 9, x -> x.count(2));
         passed.then(x -> x.revoke(0, 2)).tells("dead, as the source's is", 3, x -> x.holds(1, 1, 2));
         Scene dead = INTO_1.then(x -> {
             x.hold(0, 0, 2, 0);
@@ -138,7 +153,6 @@ final class PassBoundaryTest extends Limits {
     /** "field f of the target becomes a link to the copy of o" */
     private static void fieldBecomesALink() {
         Scene kinds = INTO_1.then(x -> {
-            x.set(1, 0, 0, 4);
             x.link(1, 0, 1, 0);
             x.hold(1, 0, 2, 1);
         });

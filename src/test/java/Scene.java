@@ -44,7 +44,7 @@ final class Scene {
         }
     }
 
-    /** The call throws what is due, and nothing has changed. */
+    /** The call throws what is due, and "What throws changes nothing." */
     void refuses(String what, Class<? extends RuntimeException> due, Call call) {
         CapabilityDomains x = make();
         checks.refuses(what, due, () -> call.on(x));

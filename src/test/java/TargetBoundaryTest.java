@@ -4,8 +4,9 @@ final class TargetBoundaryTest extends Limits {
     private static final Scene SIX = new Scene(CHECKS, Limits::sixDomains);
 
     /**
-     * Domain 1 reaches object 1 of domain 0 by its slot 1, with two uses. The object's fields hold
-     * the int 9, a link to object 0, and a capability for object 0 with three uses.
+     * Domain 1 reaches object 1 of domain 0 by its slot 1, with two uses, of three that the parent
+     * in slot 1 of domain 0 has. The object's fields hold the int 9, a link to object 0, and a
+     * capability for object 0 with three uses.
      */
     private static final Scene KINDS = SIX.then(x -> {
         x.object(0);
@@ -13,8 +14,9 @@ final class TargetBoundaryTest extends Limits {
         x.link(0, 1, 1, 0);
         x.export(0, 0, 2, 31, 3);
         x.hold(0, 1, 2, 2);
-        x.export(0, 1, 1, 31, 2);
+        x.export(0, 1, 1, 31, 3);
         x.give(0, 1, 1, 1);
+        x.narrow(1, 1, 31, 2);
     });
     private static final Scene KINDS_DEAD = KINDS.then(x -> x.revoke(0, 2));
 
@@ -91,7 +93,8 @@ final class TargetBoundaryTest extends Limits {
         KINDS.answers("12: one left", 1, x -> x.write(1, 1, 0, 1));
         KINDS.then(x -> x.write(1, 1, 0, 1)).answers("12: none left", 0, x -> x.write(1, 1, 0, 1));
         KINDS.then(x -> x.read(1, 1, 0)).answers("12: the use before was a read", 0,
-                x -> x.write(0, 1, 0, 1));
+                x -> x.write(1, 1, 0, 1));
+        KINDS.then(x -> x.read(1, 1, 0)).answers("12: the parent's", 1, x -> x.write(0, 1, 0, 1));
         SIX.then(x -> x.export(0, 0, 1, 2, MOST)).answers("12: the most", MOST - 1,
                 x -> x.write(0, 1, 0, 1));
         KINDS.then(x -> x.narrow(1, 1, 2, -1)).answers("12: its own, not its parent's", -1,
@@ -126,7 +129,7 @@ final class TargetBoundaryTest extends Limits {
         }
         Scene over = KINDS.then(x -> x.take(1, 1, 2, 1));
         over.answers("14: in place of the one that is used", 2, x -> x.write(1, 1, 0, 7));
-        over.answers("14: which has one use less", 0, x -> x.write(0, 1, 0, 7));
+        over.answers("14: whose parent has one use less", 1, x -> x.write(0, 1, 0, 7));
         Scene itself = SIX.then(x -> {
             x.export(0, 0, 1, 31, 2);
             x.hold(0, 0, 2, 1);

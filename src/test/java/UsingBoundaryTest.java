@@ -141,9 +141,9 @@ final class UsingBoundaryTest extends Limits {
 
     /** "it lacks the RIGHT: UnsupportedOperationException" */
     private void lacksTheRight() {
-        SIX.then(x -> x.export(0, 0, 1, 31 - right, -1)).refuses(call + " with all other rights",
+        SIX.then(x -> x.export(0, 0, 1, 31 - right, 3)).refuses(call + " with all other rights",
                 RIGHT, x -> good.through(x, 0, 1));
-        SIX.then(x -> x.export(0, 0, 1, 0, -1)).refuses(call + " without rights", RIGHT,
+        SIX.then(x -> x.export(0, 0, 1, 0, 3)).refuses(call + " without rights", RIGHT,
                 x -> good.through(x, 0, 1));
         SIX.then(x -> x.export(0, 0, 1, right, -1)).answers(call + " with that right alone", due,
                 x -> good.through(x, 0, 1));

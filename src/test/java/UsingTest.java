@@ -1,84 +1,22 @@
-import java.util.NoSuchElementException;
-
-/** Promises 11 to 15: what is done through a capability, and what USING it costs and refuses. */
-final class UsingTest {
-    private static final Class<IllegalArgumentException> ARGUMENT = IllegalArgumentException.class;
-    private static final Class<IllegalStateException> STATE = IllegalStateException.class;
-    private static final Class<NoSuchElementException> ELEMENT = NoSuchElementException.class;
-    private static final Class<UnsupportedOperationException> RIGHT =
-            UnsupportedOperationException.class;
-    private static final Class<IndexOutOfBoundsException> INDEX = IndexOutOfBoundsException.class;
-    private static final Class<ArithmeticException> ARITHMETIC = ArithmeticException.class;
+/** Promises 11 to 15: what is done through a capability, and what USING it costs. */
+final class UsingTest extends Limits {
     private static final Checks CHECKS = new Checks("UsingTest");
 
-    /** A call that is USING; its other arguments are wrong ones, so that USING is tested first. */
-    private interface Use {
-        int through(CapabilityDomains x, int d, int s);
-    }
-
     public static void main(String[] args) {
-        usingRefusesInOrder("11: read", 1, (x, d, s) -> x.read(d, s, 3));
-        usingRefusesInOrder("12: write", 2, (x, d, s) -> x.write(d, s, 3, 1));
-        usingRefusesInOrder("13: pass", 4, (x, d, s) -> x.pass(d, s, 3, 12));
-        usingRefusesInOrder("14: take", 8, (x, d, s) -> x.take(d, s, 3, 8));
-        usingRefusesInOrder("15: free", 16, (x, d, s) -> x.free(d, s));
         promise11Read();
         promise12Write();
         usesAreCountedAtAllHeights();
-        whatThrowsCostsNoUse();
         promise13Pass();
         promise13PassOrder();
         promise13PassIntoItsOwnDomain();
-        promise13PassFillsGaps();
-        promise13PassRefuses();
         promise14Take();
         promise15Free();
         promise15FreeEndsAllThatAimAtIt();
         CHECKS.finish();
     }
 
-    /** Domains 0 and 1 with the objects 0 and 1 each; domain 2 has ended. */
-    private static CapabilityDomains place() {
-        CapabilityDomains x = new CapabilityDomains();
-        for (int d = 0; d < 3; d++) {
-            x.domain();
-            x.object(d);
-            x.object(d);
-        }
-        x.end(2);
-        return x;
-    }
-
-    private static void usingRefusesInOrder(String call, int right, Use use) {
-        CapabilityDomains x = place();
-        x.export(0, 0, 0, 31 - right, -1);
-        x.export(0, 0, 1, 31 - right, 0);
-        x.export(0, 0, 2, 31 - right, -1);
-        x.revoke(0, 2);
-        x.export(0, 0, 3, 31, 0);
-        x.narrow(0, 3, 31, -1);
-        x.narrow(0, 3, 31 - right, 5);
-        CHECKS.refuses(call + ", domain -1", ARGUMENT, () -> use.through(x, -1, 0));
-        CHECKS.refuses(call + ", domain 3", ARGUMENT, () -> use.through(x, 3, 0));
-        CHECKS.refuses(call + ", slot 8", ARGUMENT, () -> use.through(x, 0, 8));
-        CHECKS.refuses(call + ", slot -1", ARGUMENT, () -> use.through(x, 0, -1));
-        CHECKS.refuses(call + ", slot before ended", ARGUMENT, () -> use.through(x, 2, 8));
-        CHECKS.refuses(call + ", ended", STATE, () -> use.through(x, 2, 0));
-        CHECKS.refuses(call + ", empty", ELEMENT, () -> use.through(x, 0, 7));
-        CHECKS.refuses(call + ", used up before right", STATE, () -> use.through(x, 0, 1));
-        CHECKS.refuses(call + ", dead before right", STATE, () -> use.through(x, 0, 2));
-        CHECKS.refuses(call + ", a parent's parent used up", STATE, () -> use.through(x, 0, 3));
-        CHECKS.refuses(call + ", lacks the right", RIGHT, () -> use.through(x, 0, 0));
-        x.export(0, 0, 4, right, -1);
-        if (right == 16) {
-            CHECKS.answers(call + ", that right is enough", 0, () -> use.through(x, 0, 4));
-        } else {
-            CHECKS.refuses(call + ", then the field", INDEX, () -> use.through(x, 0, 4));
-        }
-    }
-
     private static void promise11Read() {
-        CapabilityDomains x = place();
+        CapabilityDomains x = twoDomains(2);
         x.export(1, 1, 0, 1, -1);
         x.give(1, 0, 0, 5);
         x.set(1, 1, 0, -7);
@@ -86,8 +24,6 @@ final class UsingTest {
         CHECKS.answers("11: read", -7, () -> x.read(0, 5, 0));
         CHECKS.answers("11: 0 at first", 0, () -> x.read(0, 5, 1));
         CHECKS.answers("11: field 2", Integer.MAX_VALUE, () -> x.read(0, 5, 2));
-        CHECKS.refuses("11: field 3", INDEX, () -> x.read(0, 5, 3));
-        CHECKS.refuses("11: field -1", INDEX, () -> x.read(0, 5, -1));
         x.link(1, 1, 0, 0);
         CHECKS.refuses("11: a link", ARITHMETIC, () -> x.read(0, 5, 0));
         x.hold(1, 1, 0, 0);
@@ -95,7 +31,7 @@ final class UsingTest {
     }
 
     private static void promise12Write() {
-        CapabilityDomains x = place();
+        CapabilityDomains x = twoDomains(2);
         x.export(1, 1, 0, 2, 3);
         x.give(1, 0, 0, 5);
         x.link(1, 1, 1, 0);
@@ -110,12 +46,10 @@ final class UsingTest {
         CHECKS.answers("12: then nothing is written", 9, () -> x.set(1, 1, 0, 9));
         x.export(1, 1, 0, 2, -1);
         CHECKS.answers("12: without end", -1, () -> x.write(1, 0, 0, 6));
-        CHECKS.refuses("12: field 3", INDEX, () -> x.write(1, 0, 3, 6));
-        CHECKS.refuses("12: field -1", INDEX, () -> x.write(1, 0, -1, 6));
     }
 
     private static void usesAreCountedAtAllHeights() {
-        CapabilityDomains x = place();
+        CapabilityDomains x = twoDomains(2);
         x.export(0, 0, 0, 31, 3);
         x.give(0, 0, 0, 1);
         x.narrow(0, 1, 31, -1);
@@ -130,30 +64,8 @@ final class UsingTest {
         CHECKS.answers("uses: none of them is dead", 3, () -> x.count(3));
     }
 
-    private static void whatThrowsCostsNoUse() {
-        CapabilityDomains x = place();
-        x.link(0, 0, 0, 1);
-        x.export(0, 0, 0, 15, 4);
-        x.narrow(0, 0, 15, 4);
-        CHECKS.refuses("costs nothing: read", ARITHMETIC, () -> x.read(0, 0, 0));
-        CHECKS.refuses("costs nothing: read of no field", INDEX, () -> x.read(0, 0, 3));
-        CHECKS.refuses("costs nothing: write", INDEX, () -> x.write(0, 0, 3, 0));
-        CHECKS.refuses("costs nothing: pass", ELEMENT, () -> x.pass(0, 0, 1, 2));
-        CHECKS.refuses("costs nothing: take", ARITHMETIC, () -> x.take(0, 0, 0, 0));
-        CHECKS.refuses("costs nothing: free", RIGHT, () -> x.free(0, 0));
-        CHECKS.answers("each use costs one: write", 3, () -> x.write(0, 0, 1, 0));
-        x.read(0, 0, 1);
-        CHECKS.answers("each use costs one: read", 1, () -> x.write(0, 0, 1, 0));
-        x.hold(0, 0, 1, 0);
-        x.take(0, 0, 1, 5);
-        CHECKS.refuses("each use costs one: take", STATE, () -> x.write(0, 0, 1, 0));
-        x.export(0, 0, 0, 6, 2);
-        x.pass(0, 0, 2, 1);
-        CHECKS.answers("each use costs one: pass", 0, () -> x.write(0, 0, 1, 0));
-    }
-
     private static void promise13Pass() {
-        CapabilityDomains x = place();
+        CapabilityDomains x = twoDomains(2);
         x.export(0, 0, 3, 1, -1);
         x.set(0, 0, 0, 42);
         x.link(0, 0, 1, 1);
@@ -182,7 +94,7 @@ final class UsingTest {
 
     /** All that hangs on a field comes before the next field, and numbers go by first coming. */
     private static void promise13PassOrder() {
-        CapabilityDomains x = place();
+        CapabilityDomains x = twoDomains(2);
         for (int o = 2; o < 7; o++) {
             x.object(0);
             x.set(0, o, 2, o * 10);
@@ -206,7 +118,7 @@ final class UsingTest {
     }
 
     private static void promise13PassIntoItsOwnDomain() {
-        CapabilityDomains x = place();
+        CapabilityDomains x = twoDomains(2);
         x.link(0, 0, 0, 1);
         x.link(0, 1, 1, 0);
         x.export(0, 0, 0, 4, -1);
@@ -219,50 +131,8 @@ final class UsingTest {
         CHECKS.answers("13: the copies hang on the target now", 5, () -> x.pass(0, 0, 2, 0));
     }
 
-    private static void promise13PassFillsGaps() {
-        CapabilityDomains x = place();
-        for (int o = 2; o < 12; o++) {
-            x.object(1);
-        }
-        for (int o = 3; o < 10; o += 3) {
-            x.export(1, o, 0, 16, -1);
-            x.free(1, 0);
-        }
-        x.object(0);
-        x.link(0, 2, 0, 1);
-        x.link(0, 1, 0, 0);
-        x.set(0, 0, 0, 5);
-        x.export(1, 11, 0, 4, -1);
-        x.give(1, 0, 0, 0);
-        CHECKS.answers("13: up to 12", 3, () -> x.pass(0, 0, 1, 2));
-        CHECKS.answers("13: the least free number first", 3, () -> x.linked(1, 11, 1));
-        CHECKS.answers("13: then the next", 6, () -> x.linked(1, 3, 0));
-        CHECKS.answers("13: then the next", 9, () -> x.linked(1, 6, 0));
-        CHECKS.answers("13: the last", 5, () -> x.set(1, 9, 0, 0));
-        CHECKS.refuses("13: then it is full", ARITHMETIC, () -> x.pass(0, 0, 1, 0));
-    }
-
-    private static void promise13PassRefuses() {
-        CapabilityDomains x = place();
-        for (int o = 2; o < 11; o++) {
-            x.object(1);
-        }
-        x.link(0, 0, 0, 1);
-        x.export(1, 0, 0, 4, -1);
-        x.give(1, 0, 0, 0);
-        CHECKS.refuses("13: field before object", INDEX, () -> x.pass(0, 0, 3, 2));
-        CHECKS.refuses("13: field -1 before room", INDEX, () -> x.pass(0, 0, -1, 0));
-        CHECKS.refuses("13: no object", ELEMENT, () -> x.pass(0, 0, 0, 2));
-        CHECKS.refuses("13: object -1", ELEMENT, () -> x.pass(0, 0, 0, -1));
-        CHECKS.refuses("13: object 12", ELEMENT, () -> x.pass(0, 0, 0, 12));
-        CHECKS.refuses("13: no room", ARITHMETIC, () -> x.pass(0, 0, 0, 0));
-        CHECKS.answers("13: then none is copied", 11, () -> x.count(5));
-        CHECKS.answers("13: and nothing linked", 0, () -> x.holds(1, 0, 0));
-        CHECKS.answers("13: room for one", 1, () -> x.pass(0, 0, 0, 1));
-    }
-
     private static void promise14Take() {
-        CapabilityDomains x = place();
+        CapabilityDomains x = twoDomains(2);
         x.set(1, 0, 0, 33);
         x.export(1, 0, 1, 1, 5);
         x.export(1, 1, 0, 8, -1);
@@ -273,13 +143,6 @@ final class UsingTest {
         CHECKS.answers("14: it is the held one", 33, () -> x.read(0, 7, 0));
         CHECKS.answers("14: the field keeps it", 2, () -> x.holds(1, 1, 2));
         CHECKS.answers("14: into a full slot", 1, () -> x.take(0, 0, 2, 7));
-        CHECKS.refuses("14: field 3", INDEX, () -> x.take(0, 0, 3, 0));
-        CHECKS.refuses("14: field -1", INDEX, () -> x.take(0, 0, -1, 0));
-        CHECKS.refuses("14: slot 8 before an int", INDEX, () -> x.take(0, 0, 0, 8));
-        CHECKS.refuses("14: slot -1", INDEX, () -> x.take(0, 0, 2, -1));
-        CHECKS.refuses("14: an int", ARITHMETIC, () -> x.take(0, 0, 0, 1));
-        CHECKS.refuses("14: a link", ARITHMETIC, () -> x.take(0, 0, 1, 1));
-        CHECKS.answers("14: then the slot stays empty", 0, () -> x.slot(0, 1));
         x.revoke(1, 1);
         CHECKS.answers("14: a dead one, too", 0, () -> x.take(0, 0, 2, 1));
         CHECKS.answers("14: and dead it is", 2, () -> x.slot(0, 1));
@@ -288,7 +151,7 @@ final class UsingTest {
     }
 
     private static void promise15Free() {
-        CapabilityDomains x = place();
+        CapabilityDomains x = twoDomains(2);
         x.link(0, 0, 0, 0);
         x.link(0, 1, 0, 0);
         x.link(0, 1, 1, 1);
@@ -315,7 +178,7 @@ final class UsingTest {
     }
 
     private static void promise15FreeEndsAllThatAimAtIt() {
-        CapabilityDomains x = place();
+        CapabilityDomains x = twoDomains(2);
         x.export(0, 0, 0, 31, -1);
         x.give(0, 0, 1, 0);
         x.narrow(1, 0, 17, 1);
