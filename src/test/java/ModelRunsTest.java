@@ -120,7 +120,14 @@ final class ModelRunsTest {
     }
 
     private static int mostlyBelow(Random random, int size) {
-        return random.nextInt(40) == 0 ? random.nextInt(16) - 2 : random.nextInt(size);
+        if (random.nextInt(40) != 0) {
+            return random.nextInt(size);
+        }
+        return random.nextInt(8) == 0 ? farFromAll(random) : random.nextInt(16) - 2;
+    }
+
+    private static int farFromAll(Random random) {
+        return random.nextBoolean() ? Integer.MIN_VALUE : Integer.MAX_VALUE;
     }
 
     private static String answer(Method method, Object on, Object[] drawn)
